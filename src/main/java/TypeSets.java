@@ -19,7 +19,6 @@ public final class TypeSets {
 
     private final Rows rows = new Rows();
     private final Tape tape = new Tape();
-    private final Reader reader = new Reader();
     private final House live = new House();
     private final House trial = new House();
     private final House firstImage = new House();
@@ -31,7 +30,6 @@ public final class TypeSets {
     private final Asks asks = new Asks();
     private boolean cellsStand;
     private boolean plainStands;
-    private int latestFault;
     private int latestFinding;
 
     public TypeSets() {
@@ -89,18 +87,17 @@ public final class TypeSets {
     }
 
     public int house() {
-        boolean fine = reader.read(tape, trial);
+        boolean isRead = tape.read(trial);
         tape.length = 0;
-        if (!fine) {
-            latestFault = reader.fault;
-            return FAULT_AT - reader.place;
+        if (!isRead) {
+            return FAULT_AT - tape.place;
         }
         standIn(trial);
         return live.types;
     }
 
     public int fault() {
-        return latestFault;
+        return tape.latestFault;
     }
 
     public int undo() {
@@ -131,8 +128,8 @@ public final class TypeSets {
         }
         switch (what) {
             case 0: return live.sorts[type];
-            case 1: return live.as[type];
-            case 2: return live.bs[type];
+            case 1: return live.firsts[type];
+            case 2: return live.seconds[type];
             default: return BAD;
         }
     }
@@ -352,8 +349,8 @@ public final class TypeSets {
 
     private boolean fits(int type, int which, int v, int wanted, int n) {
         int sort = which == 0 ? v : live.sorts[type];
-        int a = which == 1 ? v : live.as[type];
-        int b = which == 2 ? v : live.bs[type];
+        int a = which == 1 ? v : live.firsts[type];
+        int b = which == 2 ? v : live.seconds[type];
         if (!live.mayStand(type, sort, a, b)) {
             return false;
         }
@@ -411,8 +408,9 @@ public final class TypeSets {
         void make(int row, int lane, int n) {
             lanes[row] = lane;
             lengths[row] = n;
-            int start = row * MOST_ITEMS;
-            Arrays.fill(items, start, start + n, 0);
+            for (int i = 0; i < n; i++) {
+                items[row * MOST_ITEMS + i] = 0;
+            }
         }
 
         int put(int row, int i, int v) {
@@ -471,12 +469,21 @@ public final class TypeSets {
         }
     }
 
-    /** THE TAPE. */
+    /** THE TAPE, and its reading; behind a FAULT the place is that of the token which has it. */
     private static final class Tape {
         static final int MOST_BYTES = 80;
+        /** Tokens that no byte stands for; letters and signs are tokens by their own number. */
+        private static final int NUMBER = -1, END = -2, NOTHING = -3;
+        private static final int MOST_FIGURES = 2;
+        private static final int CANNOT_STAND = 1, WRONG_NUMBER = 2, NO_ROOM = 3, NO_SUCH_TYPE = 4;
 
-        final int[] bytes = new int[MOST_BYTES];
+        private final int[] bytes = new int[MOST_BYTES];
         int length;
+        private int next;
+        private int token;
+        private int number;
+        int place;
+        int latestFault;
 
         boolean add(int letter) {
             if (length >= MOST_BYTES) {
@@ -486,26 +493,9 @@ public final class TypeSets {
             length++;
             return true;
         }
-    }
 
-    /** Reads a house from a tape; behind a FAULT the place is that of the token which has it. */
-    private static final class Reader {
-        /** Tokens that no byte stands for; letters and signs are tokens by their own number. */
-        private static final int NUMBER = -1, END = -2, NOTHING = -3;
-        private static final int MOST_FIGURES = 2;
-        private static final int CANNOT_STAND = 1, WRONG_NUMBER = 2, NO_ROOM = 3, NO_SUCH_TYPE = 4;
-
-        private Tape tape;
-        private int next;
-        private int token;
-        private int number;
-        int place;
-        int fault;
-
-        boolean read(Tape from, House to) {
-            tape = from;
+        boolean read(House to) {
             next = 0;
-            fault = 0;
             to.types = 0;
             if (!takesSign('s') || !takesNumber(1, MOST_CONSTANTS)) {
                 return false;
@@ -581,17 +571,17 @@ public final class TypeSets {
         }
 
         private boolean fails(int by) {
-            fault = by;
+            latestFault = by;
             return false;
         }
 
         private void step() {
             place = next;
-            if (place >= tape.length) {
+            if (place >= length) {
                 token = END;
                 return;
             }
-            int letter = tape.bytes[place];
+            int letter = bytes[place];
             if (isFigure(letter)) {
                 stepOverFigures();
                 return;
@@ -602,9 +592,9 @@ public final class TypeSets {
 
         private void stepOverFigures() {
             number = 0;
-            for (next = place; next < tape.length && isFigure(tape.bytes[next]); next++) {
+            for (next = place; next < length && isFigure(bytes[next]); next++) {
                 // figures beyond the second make it no number at all, so they need not count
-                number = next - place < MOST_FIGURES ? number * 10 + tape.bytes[next] - '0' : number;
+                number = next - place < MOST_FIGURES ? number * 10 + bytes[next] - '0' : number;
             }
             token = next - place <= MOST_FIGURES ? NUMBER : NOTHING;
         }
@@ -617,8 +607,8 @@ public final class TypeSets {
     /** A HOUSE: its equations; without types it is none. */
     private static final class House {
         final int[] sorts = new int[MOST_TYPES];
-        final int[] as = new int[MOST_TYPES];
-        final int[] bs = new int[MOST_TYPES];
+        final int[] firsts = new int[MOST_TYPES];
+        final int[] seconds = new int[MOST_TYPES];
         int types;
         int constants;
 
@@ -640,8 +630,8 @@ public final class TypeSets {
 
         void takeFrom(House other) {
             System.arraycopy(other.sorts, 0, sorts, 0, MOST_TYPES);
-            System.arraycopy(other.as, 0, as, 0, MOST_TYPES);
-            System.arraycopy(other.bs, 0, bs, 0, MOST_TYPES);
+            System.arraycopy(other.firsts, 0, firsts, 0, MOST_TYPES);
+            System.arraycopy(other.seconds, 0, seconds, 0, MOST_TYPES);
             types = other.types;
             constants = other.constants;
         }
@@ -659,13 +649,13 @@ public final class TypeSets {
 
         void tell(int type, int sort, int a, int b) {
             sorts[type] = sort;
-            as[type] = a;
-            bs[type] = b;
+            firsts[type] = a;
+            seconds[type] = b;
         }
 
         boolean namesOnlyItsOwn() {
             for (int type = 0; type < types; type++) {
-                if (!mayStand(type, sorts[type], as[type], bs[type])) {
+                if (!mayStand(type, sorts[type], firsts[type], seconds[type])) {
                     return false;
                 }
             }
@@ -675,7 +665,7 @@ public final class TypeSets {
         int cellOfConstant(int constant) {
             int spans = 0;
             for (int type = 0; type < types; type++) {
-                if (sorts[type] == SPAN && as[type] <= constant && constant <= bs[type]) {
+                if (sorts[type] == SPAN && firsts[type] <= constant && constant <= seconds[type]) {
                     spans |= 1 << type;
                 }
             }
@@ -686,8 +676,8 @@ public final class TypeSets {
         int cellOf(int told) {
             int cell = told;
             for (int type = 0; type < types; type++) {
-                int a = cell >> as[type] & 1;
-                int b = cell >> bs[type] & 1;
+                int a = cell >> firsts[type] & 1;
+                int b = cell >> seconds[type] & 1;
                 switch (sorts[type]) {
                     case UNION: cell |= (a | b) << type; break;
                     case BOTH: cell |= (a & b) << type; break;
@@ -710,7 +700,7 @@ public final class TypeSets {
         int withFirstIn(int sort, int cell) {
             int bits = 0;
             for (int type = 0; type < types; type++) {
-                bits |= sorts[type] == sort ? (cell >> as[type] & 1) << type : 0;
+                bits |= sorts[type] == sort ? (cell >> firsts[type] & 1) << type : 0;
             }
             return bits;
         }
@@ -719,7 +709,7 @@ public final class TypeSets {
         int withSecondIn(int sort, int cell) {
             int bits = 0;
             for (int type = 0; type < types; type++) {
-                bits |= sorts[type] == sort ? (cell >> bs[type] & 1) << type : 0;
+                bits |= sorts[type] == sort ? (cell >> seconds[type] & 1) << type : 0;
             }
             return bits;
         }
@@ -731,8 +721,8 @@ public final class TypeSets {
 
         private final int[] types = new int[MOST_ACTS];
         private final int[] sorts = new int[MOST_ACTS];
-        private final int[] as = new int[MOST_ACTS];
-        private final int[] bs = new int[MOST_ACTS];
+        private final int[] firsts = new int[MOST_ACTS];
+        private final int[] seconds = new int[MOST_ACTS];
         int kept;
 
         void keep(House house, int type) {
@@ -741,15 +731,15 @@ public final class TypeSets {
             }
             types[kept] = type;
             sorts[kept] = house.sorts[type];
-            as[kept] = house.as[type];
-            bs[kept] = house.bs[type];
+            firsts[kept] = house.firsts[type];
+            seconds[kept] = house.seconds[type];
             kept++;
         }
 
         void takeBack(House house) {
             if (kept > 0) {
                 kept--;
-                house.tell(types[kept], sorts[kept], as[kept], bs[kept]);
+                house.tell(types[kept], sorts[kept], firsts[kept], seconds[kept]);
             }
         }
 
@@ -757,8 +747,8 @@ public final class TypeSets {
             kept = MOST_ACTS - 1;
             System.arraycopy(types, 1, types, 0, kept);
             System.arraycopy(sorts, 1, sorts, 0, kept);
-            System.arraycopy(as, 1, as, 0, kept);
-            System.arraycopy(bs, 1, bs, 0, kept);
+            System.arraycopy(firsts, 1, firsts, 0, kept);
+            System.arraycopy(seconds, 1, seconds, 0, kept);
         }
     }
 
@@ -820,7 +810,7 @@ public final class TypeSets {
      * or less give those of height h + 1 or less, and there is no more to come when a height brings no new one.
      */
     private static final class Cells {
-        private House house;
+        private final House house = new House();
         private int all;
         private int arrows;
         private int withConstant;
@@ -861,7 +851,7 @@ public final class TypeSets {
         }
 
         private void begin(House of) {
-            house = of;
+            house.takeFrom(of);
             all = of.all();
             arrows = of.ofSort(FUNCTIONS);
             withConstant = 0;
@@ -1065,6 +1055,8 @@ public final class TypeSets {
         private final Sets byPair = new Sets();
 
         void measure(House house) {
+            Arrays.fill(ofType, 0);
+            Arrays.fill(total, 0);
             byCell.clear();
             for (int h = 0; h < HEIGHTS; h++) {
                 pairUp(house);
@@ -1099,8 +1091,6 @@ public final class TypeSets {
         }
 
         private void sumUp(int h) {
-            total[h] = 0;
-            Arrays.fill(ofType, h * MOST_TYPES, (h + 1) * MOST_TYPES, 0);
             for (int k = 0; k < byCell.size; k++) {
                 int cell = byCell.at[k];
                 int n = byCell.number[cell];
@@ -1156,8 +1146,8 @@ public final class TypeSets {
             left = 0;
             one = type;
             kindOfOne = kindOf(house.sorts[type]);
-            a = house.as[type];
-            b = house.bs[type];
+            a = house.firsts[type];
+            b = house.seconds[type];
         }
 
         int sizeOfOne() {
