@@ -1007,14 +1007,14 @@ public final class TypeSets {
             return all & ~unanswered;
         }
 
-        /** Cases are open to a type by what they take, if some function of it has no more of the rest taken by them. */
+        /** Marks what a case may take so that some function of f has it: no more than such a function misses. */
         private void openFor(int f) {
             Arrays.fill(open, 0);
             for (int k = 0; k < missed.size; k++) {
                 open[missed.at[k]] = cellMissing[missed.at[k]] >> f & 1;
             }
             for (int bit = 1; bit < SETS; bit <<= 1) {
-                for (int set = 0; set < SETS; set++) {
+                for (int set = 0; set < SETS && (arrows & bit) != 0; set++) {
                     open[set] |= open[set | bit];
                 }
             }
