@@ -35,7 +35,7 @@ final class ActsTest {
     TypeSets x = Check.told("s2;c0,1;p0,1;u0,1;");
     x.anew(0, 0, 0, 0);
     String ahead = Check.state(x);
-    int[][] bad = {{-1, 0, 0, 0}, {3, 0, 0, 0}, {0, -1, 0, 0}, {0, 6, 0, 0}, {0, 0, -1, 0}, {0, 0, 2, 1}, {0, 0, 0, 4},
+    int[][] bad = {{-1, 0, 0, 0}, {3, 0, 0, 0}, {0, -1, 0, 0}, {0, 6, 0, 0}, {2, -1, 0, 0}, {2, 6, 0, 0}, {2, 7, 1, 1}, {0, 0, -1, 0}, {0, 0, 2, 1}, {0, 0, 0, 4},
       {0, 0, 4, 4}, {0, 1, 3, 0}, {0, 1, 0, 3}, {0, 1, -1, 0}, {0, 2, 0, -1}, {0, 2, 3, 3}, {0, 3, 0, 0}, {1, 3, 1, 0},
       {1, 4, 0, 1}, {2, 5, 2, 0}, {2, 3, 0, 2}, {2, 4, -1, 0}, {2, 5, 0, Integer.MIN_VALUE}, {0, 1, Integer.MAX_VALUE, 0}};
     for (int[] c : bad) Check.due("anew " + c[0] + " " + c[1] + " " + c[2] + " " + c[3], x.anew(c[0], c[1], c[2], c[3]), Check.BAD);
@@ -78,10 +78,27 @@ final class ActsTest {
     Check.due("the oldest two are forgotten", x.undo(), Check.STATE);
     is(x, 0, 0, 0, 0);
     is(x, 1, 0, 0, 0);
+    manySorts();
     TypeSets y = Check.told("s2;c1,1;");
     for (int k = 0; k < 25; k++) y.anew(0, 0, 0, 0);
     for (int k = 0; k < 24; k++) y.undo();
     is(y, 0, 0, 0, 0);
+  }
+
+  /** 31 acts of seven types, no two neighbours of a sort or a type. */
+  private static void manySorts() {
+    TypeSets x = Check.told("s2;c0,0;c0,0;c0,0;c0,0;c0,0;c0,0;c0,0;");
+    int[][] was = new int[31][];
+    for (int k = 0; k < 31; k++) {
+      int type = 2 + k % 5;
+      was[k] = new int[] {type, x.type(type, 0), x.type(type, 1), x.type(type, 2)};
+      Check.due("as it was", x.anew(type, k % 6, k % 2, 1), was[k][1]);
+    }
+    for (int k = 30; k >= 7; k--) {
+      Check.due("undo", x.undo(), k - 7);
+      is(x, was[k][0], was[k][1], was[k][2], was[k][3]);
+    }
+    Check.due("the oldest seven are forgotten", x.undo(), Check.STATE);
   }
 
   private static void images() {

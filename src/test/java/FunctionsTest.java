@@ -3,6 +3,7 @@ final class FunctionsTest {
   public static void main(String[] args) {
     plainArrows();
     joinedArrows();
+    lessAnywhere();
     emptyOnes();
     pairs();
     refusals();
@@ -36,6 +37,25 @@ final class FunctionsTest {
     Check.due("askable", x.askable(5), 7);
     Check.due("by either", x.askable(6), 4);
     Check.due("askable", x.askable(7), 5);
+  }
+
+  /** 0 to 0, and 1 to 1 less that, wherever the two stand: such a function can have cases that take nothing. */
+  private static void lessAnywhere() {
+    String[] told = {"c2,2;", "c2,2;", "c2,2;", "c2,2;", "c2,2;", "c0,0;", "c1,1;"};
+    for (int one = 0; one < 5; one++) {
+      for (int other = 0; other < 5; other++) {
+        if (one == other) continue;
+        StringBuilder text = new StringBuilder("s2;");
+        for (int t = 0; t < 7; t++) text.append(t == one ? "f5,5;" : t == other ? "f6,6;" : told[t]);
+        TypeSets x = Check.told(text.append("l" + other + "," + one + ";").toString());
+        int empty = 31 & ~(1 << one | 1 << other);
+        Check.due(text + " askable", x.askable(7), 64 | empty);
+        Check.due(text + " from 1", x.answers(7, 6), 64);
+        Check.due(text + " from 0", x.answers(7, 5), 0);
+        Check.due(text + " from functions", x.answers(7, one), 0);
+        Check.due(text + " from such functions", x.answers(7, 7), 0);
+      }
+    }
   }
 
   /** 0: {0}; 1: empty; 2: functions from 1; 3: functions 0 to 1; 4: functions 0 to 0. */

@@ -29,10 +29,9 @@ final class RowsTest {
     Check.due("rows", x.count(0), 2);
     Check.due("the row stayed", x.drop(0), 0);
     x.row(2, 2, 3);
-    x.set(2, 1, 77);
+    for (int i = 0; i < 3; i++) x.set(2, i, 77);
     Check.due("anew", x.row(2, 2, 3), 3);
-    x.row(3, 2, 1);
-    Check.due("items are 0 again", itemOf(x, 2, 1), 0);
+    for (int i = 0; i < 3; i++) Check.due("items are 0 again", itemOf(x, 2, i), 0);
     Check.due("shorter", x.row(2, 0, 1), 1);
     Check.due("place behind it", x.set(2, 1, 1), Check.PLACE);
   }

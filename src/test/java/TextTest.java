@@ -4,6 +4,7 @@ final class TextTest {
     newObject();
     feeding();
     faults();
+    behindTheEnd();
     houses();
     allStays();
     Check.finish();
@@ -94,6 +95,21 @@ final class TextTest {
     fails(eight + "0", 43, 1);
     fails(eight + "000", 43, 1);
     fails(eight + ";", 43, 1);
+  }
+
+  /** What was on the tape before, behind its end now, is not read. */
+  private static void behindTheEnd() {
+    TypeSets x = new TypeSets();
+    Check.tell(x, "s123");
+    Check.due("the end behind s1", Check.tell(x, "s1"), -1000102);
+    Check.due("fault", x.fault(), 1);
+    Check.tell(x, "s1;c0,0;c0,0;");
+    Check.due("one type", Check.tell(x, "s1;c0,0;"), 1);
+    String seven = "s01;c00,00;c00,00;c00,00;c00,00;c00,00;c00,00;c00,00;p0,0;";
+    StringBuilder full = new StringBuilder("s1;c0,0;");
+    while (full.length() < 80) full.append('0');
+    Check.due("80 bytes, figures to the end", Check.tell(x, full.toString()), -1000108);
+    Check.due("seven and one", Check.tell(x, seven), 8);
   }
 
   private static void reads(String text, int constants, int[][] types) {
