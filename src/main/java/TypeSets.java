@@ -577,26 +577,20 @@ public final class TypeSets {
 
         private void step() {
             place = next;
-            if (place >= length) {
-                token = END;
-                return;
-            }
-            int letter = bytes[place];
-            if (isFigure(letter)) {
-                stepOverFigures();
-                return;
-            }
-            next = place + 1;
-            token = letter >= 'a' && letter <= 'z' || letter == ',' || letter == ';' ? letter : NOTHING;
-        }
-
-        private void stepOverFigures() {
             number = 0;
-            for (next = place; next < length && isFigure(bytes[next]); next++) {
+            for (; next < length && isFigure(bytes[next]); next++) {
                 // figures beyond the second make it no number at all, so they need not count
                 number = next - place < MOST_FIGURES ? number * 10 + bytes[next] - '0' : number;
             }
-            token = next - place <= MOST_FIGURES ? NUMBER : NOTHING;
+            if (next > place) {
+                token = next - place <= MOST_FIGURES ? NUMBER : NOTHING;
+            } else if (next >= length) {
+                token = END;
+            } else {
+                int letter = bytes[next];
+                token = letter >= 'a' && letter <= 'z' || letter == ',' || letter == ';' ? letter : NOTHING;
+                next++;
+            }
         }
 
         private static boolean isFigure(int letter) {
