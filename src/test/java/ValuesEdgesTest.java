@@ -12,6 +12,7 @@ final class ValuesEdgesTest {
     heightsOfPairs();
     heightsOfFunctions();
     casesFromOneValue();
+    noAnswer();
     setsOfTypes();
     allEmpty();
     oneType();
@@ -71,6 +72,21 @@ final class ValuesEdgesTest {
     Check.due("to neither {0} nor {1}, but not to no answer", x.lowest(32, 64), 2);
     Check.due("answers", x.answers(5, 0), 4);
     Check.due("one case from 0 can be to both alike", x.lowest(8 | 16, 0), 1);
+  }
+
+  /** "to a VALUE OF B (not to no answer)"; 0: {0}; 1: pairs; 2: functions; 4: all values; 5: none; 6: all to all; 7: 2 less 6. */
+  private static void noAnswer() {
+    TypeSets x = Check.told("s1;c0,0;p4,4;f5,0;u0,1;u3,2;l0,0;f4,4;l2,6;");
+    Check.due("all values are of 4", x.lowest(0, 16), Check.NONE);
+    Check.due("only no answer is not of 4", x.lowest(4, 64), 2);
+    Check.due("the same by less", x.lowest(128, 0), 2);
+    Check.due("functions that answer are not all", x.lies(2, 6), 0);
+    Check.due("what always answers can be asked all", x.askable(6), 255);
+    Check.due("a function can be asked nothing", x.askable(2), 32);
+    Check.due("nor one that has no answer once", x.askable(7), 32);
+    Check.due("all answers are values", x.answers(6, 4), 16);
+    Check.due("no answer is of no type", x.answers(2, 4), 0);
+    Check.due("no case is from none", x.answers(2, 5), 255);
   }
 
   /** "a TYPE of both: there are none; P of no TYPES: of any". */
@@ -184,14 +200,15 @@ final class ValuesEdgesTest {
     Check.due("how many", x.cellAt(-1), 129);
   }
 
-  /** "(Of an EMPTY TYPE: all.)", and by an EMPTY TYPE; 0: {0}; 1: none; 2: any function; 3: 0 to none; 4: 2 or 0; 5: 3 less 2. */
+  /** "(Of an EMPTY TYPE: all.)", and by an EMPTY TYPE; 0: {0}; 1: none; 2: any function; 3: 0 to none; 4: 2 or 0; 5: 3 less 2; 6: pairs. */
   private static void answersOfEmptyOnes() {
-    TypeSets x = Check.told("s1;c0,0;p1,1;f1,0;f0,1;u2,0;l3,2;");
-    int all = 63;
-    for (int a = 0; a < 6; a++) {
+    TypeSets x = Check.told("s1;c0,0;p1,1;f1,0;f0,1;u2,0;l3,2;p0,0;");
+    int all = 127;
+    for (int a = 0; a < 7; a++) {
       Check.due("of an empty type", x.answers(1, a), all);
       Check.due("of an empty type that is less", x.answers(5, a), all);
       Check.due("of a constant", x.answers(0, a), 0);
+      Check.due("of a pair", x.answers(6, a), 0);
       Check.due("of a function or a constant", x.answers(4, a), 0);
       Check.due("of any function", x.answers(2, a), a == 1 || a == 5 ? all : 0);
       Check.due("none from 0", x.answers(3, a), a <= 1 || a == 5 ? all : 0);
@@ -200,6 +217,7 @@ final class ValuesEdgesTest {
     Check.due("askable: all", x.askable(5), all);
     Check.due("askable: none", x.askable(0), 0);
     Check.due("askable: none", x.askable(4), 0);
+    Check.due("askable: none", x.askable(6), 0);
     Check.due("askable: only of what has no value", x.askable(2), 2 | 32);
     Check.due("askable: and of 0", x.askable(3), 1 | 2 | 32);
   }
