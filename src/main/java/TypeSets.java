@@ -1145,28 +1145,24 @@ public final class TypeSets {
         }
 
         int sizeOfOne() {
-            if (isOne(kindOfOne, JOINT_KIND)) {
-                return kindOfOne == COMMON_KIND ? body12() : body11();
+            switch (kindOfOne) {
+                case JOINT_KIND:
+                case LESS_KIND: return body11();
+                case COMMON_KIND: return body12();
+                case PAIRS_KIND: return body13();
+                case ARROW_KIND: return body14();
+                default: return body10();
             }
-            return isOne(kindOfOne, PAIRS_KIND) ? sizeOfPairs() : body10();
         }
 
         int markOfOne() {
-            if (isOne(kindOfOne, JOINT_KIND)) {
-                return markOfJoint();
-            }
-            return isOne(kindOfOne, PAIRS_KIND) ? body23() : body20();
-        }
-
-        private int sizeOfPairs() {
-            return kindOfOne == ARROW_KIND ? body14() : body13();
-        }
-
-        private int markOfJoint() {
             switch (kindOfOne) {
-                case COMMON_KIND: return body24();
+                case JOINT_KIND: return body21();
                 case LESS_KIND: return body22();
-                default: return body21();
+                case PAIRS_KIND:
+                case ARROW_KIND: return body23();
+                case COMMON_KIND: return body24();
+                default: return body20();
             }
         }
 
@@ -1177,7 +1173,13 @@ public final class TypeSets {
 
         private int body11() {
             leave(11);
-            return body10() + markOfJoint();
+            int size = body10();
+            // only joints come here, so MARK, asked anew, has one of their three bodies
+            switch (kindOfOne) {
+                case LESS_KIND: return size + body22();
+                case COMMON_KIND: return size + body24();
+                default: return size + body21();
+            }
         }
 
         private int body12() {
@@ -1212,7 +1214,9 @@ public final class TypeSets {
 
         private int body23() {
             leave(23);
-            return body20() - sizeOfPairs();
+            int mark = body20();
+            // only pairs and arrows come here, so SIZE, asked anew, has one of their two bodies
+            return mark - (kindOfOne == ARROW_KIND ? body14() : body13());
         }
 
         private int body24() {
